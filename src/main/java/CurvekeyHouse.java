@@ -26,7 +26,7 @@ public final class CurvekeyHouse {
     /** 512 calls make no more: ticks end at 400 spells and 9 * 80 more, moves are one each. */
     private static final int SPELLS_MOST = 2048;
     private static final int SPELLS_FOR_TICK = 400;
-    private static final int LASTING = Integer.MAX_VALUE;
+    private static final int MORE_THAN_ANY = 2147483647;
     private static final int RUNS_MOST = 99;
     private static final int FAR_MOST = 2000;
     private static final int SPEED_MOST = 3;
@@ -101,7 +101,7 @@ public final class CurvekeyHouse {
         needArgument(isSize(wide, high));
         Box box = new Box(0, 0, wide, high);
         int best = 0;
-        int fewest = Integer.MAX_VALUE;
+        int fewest = MORE_THAN_ANY;
         for (int each = 0; each < CURVES; each++) {
             int found = isBox ? runsOf(each, box) : curves.runsOfAll(each, wide, high);
             if (found < fewest) {
@@ -448,7 +448,8 @@ public final class CurvekeyHouse {
     private static boolean isTable(int first, int second, int third, int fourth) {
         boolean areCodes = isBetween(first, 0, 31) && isBetween(second, 0, 31)
                 && isBetween(third, 0, 31) && isBetween(fourth, 0, 31);
-        return areCodes && ((1 << (first >> 3)) | (1 << (second >> 3)) | (1 << (third >> 3)) | (1 << (fourth >> 3))) == 15;
+        int named = 1 << (first >> 3) | 1 << (second >> 3) | 1 << (third >> 3) | 1 << (fourth >> 3);
+        return areCodes && named == 15;
     }
 
     private boolean isKey(int number) {
@@ -661,12 +662,15 @@ public final class CurvekeyHouse {
     }
 
     private boolean arePointsEntered() {
-        for (int point = 0; point < points.size(); point++) {
-            if (points.isAlive(point) && pages.holder(keyOfPoint(point)) != point) {
+        int entered = 0;
+        for (int key = 0; key < curves.keyCount(); key++) {
+            int point = pages.holder(key);
+            if (point != NONE && (!points.isAlive(point) || keyOfPoint(point) != key)) {
                 return false;
             }
+            entered += point == NONE ? 0 : 1;
         }
-        return pages.holders() == points.living();
+        return entered == points.living();
     }
 
     private static long mix(long sum, long number) {
@@ -716,7 +720,10 @@ public final class CurvekeyHouse {
         return mix(mixed, skew());
     }
 
-    /** Numbers in a row. Every index of the program is looked at here: beyond the ends there is NONE, and nothing is kept. */
+    /**
+     * Numbers in a row. Every index of the program is looked at here, so that none can throw:
+     * beyond the ends there is NONE, and nothing is kept.
+     */
     private static final class Row {
         private final int[] numbers;
 
@@ -1090,16 +1097,6 @@ public final class CurvekeyHouse {
             return Math.max(NONE, holds.at(key));
         }
 
-        int holders() {
-            int holders = 0;
-            for (int key = 0; key < keys; key++) {
-                if (holder(key) != NONE) {
-                    holders++;
-                }
-            }
-            return holders;
-        }
-
         int entriesIn(int page) {
             int entries = 0;
             int roof = floors.at(page + 1);
@@ -1365,7 +1362,7 @@ public final class CurvekeyHouse {
 
         private int nearestTo(int point) {
             int nearest = NONE;
-            int least = Integer.MAX_VALUE;
+            int least = MORE_THAN_ANY;
             for (int other = 0; other < size; other++) {
                 int far = farFrom(other, x(point), y(point));
                 if (isAlive(other) && other != point && far < least) {
@@ -1462,7 +1459,7 @@ public final class CurvekeyHouse {
             xs.set(size, x);
             ys.set(size, y);
             begins.set(size, version);
-            ends.set(size, LASTING);
+            ends.set(size, MORE_THAN_ANY);
             lastSpells.set(point, size);
             spellCounts.add(point, 1);
             size++;

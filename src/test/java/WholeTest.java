@@ -1,0 +1,171 @@
+/** Promises 42 to 45: all of it. */
+public final class WholeTest {
+    private static final Class<?> ARGUMENT = IllegalArgumentException.class;
+
+    public static void main(String[] args) throws ReflectiveOperationException {
+        row();
+        isSound();
+        broken();
+        knock();
+        digest();
+        Due.end();
+    }
+
+    private static void row() {
+        CurvekeyHouse house = new CurvekeyHouse();
+        house.found(4, 3, 4);
+        for (int n = 0; n < 14; n++) {
+            house.put(n, 2);
+        }
+        house.remove(3);
+        house.move(12, 15, 2);
+        house.move(13, 0, 15);
+        Due.text("012.4567" + "8901...2", "row(2)", house.row(2));
+        Due.text("3...............", "row(15)", house.row(15));
+        Due.text("................", "row(0)", house.row(0));
+        for (int wrong : new int[] {-1, 16, Integer.MAX_VALUE, Integer.MIN_VALUE}) {
+            Due.fails(ARGUMENT, "row(" + wrong + ")", house, () -> house.row(wrong).length());
+        }
+        house.found(1, 0, 2);
+        Due.text("..", "row of the smallest", house.row(1));
+    }
+
+    private static void isSound() {
+        CurvekeyHouse house = new CurvekeyHouse();
+        Due.yes("a new one is sound", house.isSound());
+        house.found(3, 3, 2);
+        house.put(0, 0);
+        Due.yes("sound with one at the key 0", house.isSound());
+        for (int seed = 0; seed < 40; seed++) {
+            house.bulk(2, seed);
+            int last = house.many(3) - 1;
+            if (seed % 3 == 0 && house.ofPoint(last, 3) == 1) {
+                house.remove(last);
+            }
+            if (seed % 5 == 0) {
+                house.sweep();
+            }
+            Due.yes("sound behind seed " + seed, house.isSound());
+        }
+    }
+
+    /** Breaks what is held inside, as no call can, and asks whether it is seen. */
+    private static void broken() throws ReflectiveOperationException {
+        String[][] breaks = {{"pages", "floors", "0", "1"}, {"pages", "floors", "1", "0"}, {"pages", "floors", "2", "0"},
+            {"pages", "holds", "0", "-1"}, {"pages", "holds", "0", "-2"}, {"pages", "holds", "0", "3"},
+            {"pages", "holds", "9", "0"}, {"pages", "holds", "0", "1"}, {"points", "xs", "0", "5"},
+            {"points", "alive", "0", "0"}, {"history", "ends", "1", "2"}, {"history", "begins", "1", "9"}};
+        for (String[] b : breaks) {
+            CurvekeyHouse house = store();
+            Due.yes("sound ahead of it", house.isSound());
+            long before = house.digest();
+            numbers(house, b[0], b[1])[Integer.parseInt(b[2])] = Integer.parseInt(b[3]);
+            Due.yes("not sound with " + String.join(" ", b), !house.isSound());
+            Due.yes("another digest with " + String.join(" ", b), house.digest() != before);
+        }
+        CurvekeyHouse full = store();
+        int[] holds = numbers(full, "pages", "holds");
+        holds[16] = -2;
+        Due.yes("an entry at the end", full.isSound());
+        holds[17] = -2;
+        Due.yes("too many entries", !full.isSound());
+    }
+
+    /** Keys 0, 1, 2 and 15, in pages of 0, 1, and 2 and 15. */
+    private static CurvekeyHouse store() {
+        CurvekeyHouse house = new CurvekeyHouse();
+        house.found(3, 0, 3);
+        house.put(0, 0);
+        house.put(1, 0);
+        house.put(2, 0);
+        house.put(7, 1);
+        return house;
+    }
+
+    private static int[] numbers(CurvekeyHouse house, String part, String row) throws ReflectiveOperationException {
+        return (int[]) inside(inside(inside(house, part), row), "numbers");
+    }
+
+    private static Object inside(Object object, String name) throws ReflectiveOperationException {
+        java.lang.reflect.Field field = object.getClass().getDeclaredField(name);
+        field.setAccessible(true);
+        return field.get(object);
+    }
+
+    private static void knock() {
+        CurvekeyHouse house = new CurvekeyHouse();
+        for (int times = 1; times <= 3; times++) {
+            Due.is(times, "knock " + times, house::knock);
+        }
+        house.found(2, 2, 2);
+        Due.is(4, "behind a found", house::knock);
+        Due.is(1, "of another house", () -> new CurvekeyHouse().knock());
+    }
+
+    private static void digest() {
+        CurvekeyHouse house = new CurvekeyHouse();
+        Due.is(byHand(house), "digest of a new one", house::digest);
+        house.bulk(30, 4);
+        house.speed(2, 1, -1);
+        house.tick(3);
+        house.remove(5);
+        house.share(3);
+        house.draw(2, 3);
+        house.search(1, 1, 4, 4, 2);
+        Due.is(byHand(house), "digest", house::digest);
+        Due.is(house.digest(), "digest again: it changes nothing", house::digest);
+        house.sweep();
+        Due.is(byHand(house), "digest behind a sweep", house::digest);
+        house.found(5, 1, 2);
+        Due.is(byHand(house), "digest behind a found", house::digest);
+        long before = house.digest();
+        house.knock();
+        Due.is(before, "a knock is not in it", house::digest);
+        house.search(0, 0, 1, 1, 1);
+        Due.yes("a search is in it", house.digest() != before);
+        CurvekeyHouse one = new CurvekeyHouse();
+        CurvekeyHouse other = new CurvekeyHouse();
+        for (int seed = 0; seed < 20; seed++) {
+            one.bulk(2, seed);
+            other.bulk(2, seed);
+            other.error();
+            Due.is(one.digest(), "digest of a twin of whom more was asked", other::digest);
+        }
+    }
+
+    private static long byHand(CurvekeyHouse house) {
+        long d = 58283;
+        for (int what = 0; what <= 15; what++) {
+            d = d * 31 + house.many(what);
+        }
+        for (int curve = 0; curve <= 5; curve++) {
+            for (int what = 0; what <= 3; what++) {
+                d = d * 31 + house.ofCurve(curve, what);
+            }
+        }
+        for (int point = 0; point < house.many(3); point++) {
+            for (int what = 0; what <= 9; what++) {
+                d = d * 31 + house.ofPoint(point, what);
+            }
+        }
+        for (int page = 0; page < house.many(5); page++) {
+            for (int what = 0; what <= 5; what++) {
+                d = d * 31 + house.ofPage(page, what);
+            }
+        }
+        d = d * 31 + house.extreme(true);
+        d = d * 31 + house.extreme(false);
+        d = d * 31 + house.error();
+        d = d * 31 + house.pieces(1);
+        for (int machine = 0; machine < house.many(11); machine++) {
+            for (int what = 0; what <= 2; what++) {
+                d = d * 31 + house.ofMachine(machine, what);
+            }
+        }
+        d = d * 31 + house.skew();
+        for (int what = 0; what <= 2; what++) {
+            d = d * 31 + house.rival(what);
+        }
+        return d * 31 + (house.isSound() ? 1 : 0);
+    }
+}
