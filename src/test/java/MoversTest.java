@@ -82,6 +82,8 @@ public final class MoversTest {
         Due.is(3, "r is 1 at 0, 7: x 0 to 1 of row 7, and row 6", () -> house.proof(0, 7, 1));
         Due.is(1, "r is 0 at 3, 0", () -> house.proof(3, 0, 0));
         Due.is(1, "r is 0 at 7, 0", () -> house.proof(7, 0, 0));
+        house.put(3, 5);
+        Due.is(1, "r is 0 at 3, 5", () -> house.proof(3, 5, 0));
     }
 
     private static void reverse() {

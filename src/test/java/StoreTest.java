@@ -50,6 +50,8 @@ public final class StoreTest {
         Due.is(1, "one point as of now", () -> house.asOf(0, 0, 16, 16, 1));
         Due.is(0, "a new point has no speed", () -> house.ofPoint(0, 8));
         Due.is(-1, "a new point is not gone", () -> house.ofPoint(0, 6));
+        house.remove(0);
+        Due.is(0, "no spells from ahead of it", () -> house.asOf(0, 0, 16, 16, 2));
         for (int order = 1; order <= 5; order++) {
             int o = order;
             Due.is(1L << (2 * order), "found of order " + order, () -> house.found(o, 0, 2));

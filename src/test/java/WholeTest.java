@@ -63,6 +63,16 @@ public final class WholeTest {
             Due.yes("not sound with " + String.join(" ", b), !house.isSound());
             Due.yes("another digest with " + String.join(" ", b), house.digest() != before);
         }
+        CurvekeyHouse low = new CurvekeyHouse();
+        low.found(4, 0, 8);
+        for (int key = 0; key < 9; key++) {
+            low.put(key, 0);
+        }
+        low.remove(5);
+        low.sweep();
+        Due.is(2, "pages of 4 and 4", () -> low.many(5));
+        numbers(low, "pages", "floors")[1] = 0;
+        Due.yes("floors that do not rise", !low.isSound());
         CurvekeyHouse full = store();
         int[] holds = numbers(full, "pages", "holds");
         holds[16] = -2;
