@@ -4,10 +4,28 @@ final class Due {
         long ask();
     }
 
+    interface Number {
+        long ask(CurvekeyHouse house, int number);
+    }
+
     private static int asked = 0;
     private static int wrong = 0;
+    private static int askedAsSaid = -1;
+    private static String said = "";
 
     private Due() {
+    }
+
+    /**
+     * Names the sentence of the document that the checks behind it are about: those of a promise, or,
+     * with 0, of the description. SentencesTest looks whether the document has it, and whether none is left out.
+     */
+    static void says(int promise, String sentence) {
+        if (asked == askedAsSaid) {
+            report("says(\"" + said + "\")", "nothing is looked at", "a check");
+        }
+        askedAsSaid = asked;
+        said = promise + ": " + sentence;
     }
 
     static void is(long want, String what, Call call) {
@@ -54,7 +72,61 @@ final class Due {
         }
     }
 
+    /** The call is refused in such a store, by this very class, and nothing shows it later. */
+    static void refuses(Class<?> kind, String what, Picture.Store store, Picture.Question call) {
+        asked++;
+        String got = Picture.thrownBy(store.build(), call);
+        if (!kind.getName().equals(got)) {
+            report(what + " throws", got.isEmpty() ? "nothing" : got, kind.getName());
+        }
+        changesNothing(what, store, call);
+    }
+
+    /** The call is not refused in such a store. */
+    static void allows(String what, Picture.Store store, Picture.Question call) {
+        asked++;
+        String got = Picture.thrownBy(store.build(), call);
+        if (!got.isEmpty()) {
+            report(what + " throws", got, "nothing");
+        }
+    }
+
+    /** Whatever the call answers, nothing shows later that it was made. */
+    static void changesNothing(String what, Picture.Store store, Picture.Question call) {
+        asked++;
+        int change = Picture.firstChange(store, call);
+        if (change >= 0) {
+            report(what + " changed the store", "another answer to question " + change, "the same one");
+        }
+    }
+
+    /** Both stores answer all alike. */
+    static void alike(String what, Picture.Store one, Picture.Store other) {
+        asked++;
+        int difference = Picture.firstDifference(one, other);
+        if (difference >= 0) {
+            report(what, "another answer to question " + difference, "the same one");
+        }
+    }
+
+    /** least and most are allowed in such a store, and what lies beyond either is refused. */
+    static void ranges(int least, int most, Class<?> kind, String what, Picture.Store store, Number call) {
+        for (int number : new int[] {least, most}) {
+            allows(what + " of " + number, store, house -> call.ask(house, number));
+        }
+        for (int number : outside(least, most)) {
+            refuses(kind, what + " of " + number, store, house -> call.ask(house, number));
+        }
+    }
+
+    static int[] outside(int least, int most) {
+        return new int[] {least - 1, most + 1, Integer.MIN_VALUE, Integer.MAX_VALUE};
+    }
+
     static void end() {
+        if (asked == askedAsSaid) {
+            report("says(\"" + said + "\")", "nothing is looked at", "a check");
+        }
         System.out.println(asked + " asked, " + wrong + " wrong");
         if (wrong != 0 || asked == 0) {
             System.exit(1);
@@ -64,7 +136,8 @@ final class Due {
     private static void report(String what, String got, String want) {
         wrong++;
         if (wrong <= 50) {
-            System.out.println(what + ": answered " + got + ", due is " + want);
+            String where = said.isEmpty() ? "" : "[" + said + "] ";
+            System.out.println(where + what + ": answered " + got + ", due is " + want);
         }
     }
 }
