@@ -27,7 +27,27 @@ public final class LanguageTest {
         words(source);
         arrays(code(source));
         methods(code(source));
+        farBehindTheLastCall();
         Due.end();
+    }
+
+    /** What is answered behind the 512th call is free, but even there no call may throw what it does not name. */
+    private static void farBehindTheLastCall() {
+        CurvekeyHouse house = new CurvekeyHouse();
+        house.found(5, 0, 2);
+        house.put(0, 0);
+        boolean isQuiet = true;
+        for (int time = 0; time < 6000; time++) {
+            int x = time % 32;
+            int y = time / 32 % 32;
+            isQuiet &= Picture.thrownBy(house, each -> each.move(0, x, y)).isEmpty();
+        }
+        Due.yes("moves", isQuiet);
+        Due.text("java.lang.IllegalStateException", "a tick", Picture.thrownBy(house, each -> each.tick(9)));
+        Due.text("", "asOf", Picture.thrownBy(house, each -> each.asOf(0, 0, 32, 32, 9)));
+        Due.text("", "remove", Picture.thrownBy(house, each -> each.remove(0)));
+        Due.text("", "sweep", Picture.thrownBy(house, CurvekeyHouse::sweep));
+        Due.text("", "digest", Picture.thrownBy(house, CurvekeyHouse::digest));
     }
 
     private static void face(String doc) {

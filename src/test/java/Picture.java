@@ -11,7 +11,7 @@ final class Picture {
         long ask(CurvekeyHouse house);
     }
 
-    private static final int SLICE = 350;
+    private static final int SLICE = 300;
 
     private Picture() {
     }

@@ -16,7 +16,6 @@ public final class StoreTest {
         ofPoint();
         ofPage();
         many();
-        farBehindTheLastCall();
         Due.end();
     }
 
@@ -305,20 +304,6 @@ public final class StoreTest {
         Due.fails(INDEX, "both wrong", house, () -> house.ofPage(2, 6));
         Due.fails(ARGUMENT, "ofPage(0, 6)", house, () -> house.ofPage(0, 6));
         Due.fails(ARGUMENT, "ofPage(0, -1)", house, () -> house.ofPage(0, -1));
-    }
-
-    /** What is answered behind the 512th call is free, but no call may throw what it does not name. */
-    private static void farBehindTheLastCall() {
-        CurvekeyHouse house = rows(5, 2);
-        house.put(0, 0);
-        for (int time = 0; time < 6000; time++) {
-            int t = time;
-            Due.is(house.key(0, t % 32, t / 32 % 32), "a move more", () -> house.move(0, t % 32, t / 32 % 32));
-        }
-        Due.fails(STATE, "a tick", house, () -> house.tick(9));
-        Due.yes("asOf", house.asOf(0, 0, 32, 32, house.many(7)) >= 0);
-        Due.is(6001, "remove: a put, 5999 moves and this", () -> house.remove(0));
-        Due.yes("tombs", house.sweep() > 0 && house.row(0).length() == 32);
     }
 
     private static void many() {

@@ -244,12 +244,14 @@ public final class WholeEdgesTest {
     private static void digestWraps() {
         Due.says(45, "A number d starts with 58283; for each of the following numbers v, d becomes d * 31 + v, "
             + "which wraps around as a 64-bit integer");
-        CurvekeyHouse house = new CurvekeyHouse();
-        for (int time = 0; time < 12; time++) {
+        for (int times = 0; times < 12; times++) {
+            CurvekeyHouse house = new CurvekeyHouse();
+            for (int time = 0; time < times; time++) {
+                house.put(time % 8, 0);
+                house.speed(time, -1, 1);
+                house.tick(1);
+            }
             Due.is(byHand(house), "of a bit more each time", house::digest);
-            house.put(time % 8, 0);
-            house.speed(time, -1, 1);
-            house.tick(1);
         }
         Due.is(byHand(new CurvekeyHouse()), "of a new one", () -> new CurvekeyHouse().digest());
         Due.is(byHand(Stores.crowded()), "of a full plane", () -> Stores.crowded().digest());

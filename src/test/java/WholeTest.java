@@ -2,10 +2,9 @@
 public final class WholeTest {
     private static final Class<?> ARGUMENT = IllegalArgumentException.class;
 
-    public static void main(String[] args) throws ReflectiveOperationException {
+    public static void main(String[] args) {
         row();
         isSound();
-        broken();
         knock();
         digest();
         Due.end();
@@ -49,59 +48,6 @@ public final class WholeTest {
         }
     }
 
-    /** Breaks what is held inside, as no call can, and asks whether it is seen. */
-    private static void broken() throws ReflectiveOperationException {
-        String[][] breaks = {{"pages", "floors", "0", "1"}, {"pages", "floors", "1", "0"}, {"pages", "floors", "2", "0"},
-            {"pages", "holds", "0", "-1"}, {"pages", "holds", "0", "-2"}, {"pages", "holds", "0", "3"},
-            {"pages", "holds", "9", "0"}, {"pages", "holds", "0", "1"}, {"points", "xs", "0", "5"},
-            {"points", "alive", "0", "0"}, {"history", "ends", "1", "2"}, {"history", "begins", "1", "9"}};
-        for (String[] b : breaks) {
-            CurvekeyHouse house = store();
-            Due.yes("sound ahead of it", house.isSound());
-            long before = house.digest();
-            numbers(house, b[0], b[1])[Integer.parseInt(b[2])] = Integer.parseInt(b[3]);
-            Due.yes("not sound with " + String.join(" ", b), !house.isSound());
-            Due.yes("another digest with " + String.join(" ", b), house.digest() != before);
-        }
-        CurvekeyHouse low = new CurvekeyHouse();
-        low.found(4, 0, 8);
-        for (int key = 0; key < 9; key++) {
-            low.put(key, 0);
-        }
-        low.remove(5);
-        low.sweep();
-        Due.is(2, "pages of 4 and 4", () -> low.many(5));
-        numbers(low, "pages", "floors")[1] = 0;
-        Due.yes("floors that do not rise", !low.isSound());
-        CurvekeyHouse full = store();
-        int[] holds = numbers(full, "pages", "holds");
-        holds[16] = -2;
-        Due.yes("an entry at the end", full.isSound());
-        holds[17] = -2;
-        Due.yes("too many entries", !full.isSound());
-    }
-
-    /** Keys 0, 1, 2 and 15, in pages of 0, 1, and 2 and 15. */
-    private static CurvekeyHouse store() {
-        CurvekeyHouse house = new CurvekeyHouse();
-        house.found(3, 0, 3);
-        house.put(0, 0);
-        house.put(1, 0);
-        house.put(2, 0);
-        house.put(7, 1);
-        return house;
-    }
-
-    private static int[] numbers(CurvekeyHouse house, String part, String row) throws ReflectiveOperationException {
-        return (int[]) inside(inside(inside(house, part), row), "numbers");
-    }
-
-    private static Object inside(Object object, String name) throws ReflectiveOperationException {
-        java.lang.reflect.Field field = object.getClass().getDeclaredField(name);
-        field.setAccessible(true);
-        return field.get(object);
-    }
-
     private static void knock() {
         CurvekeyHouse house = new CurvekeyHouse();
         for (int times = 1; times <= 3; times++) {
@@ -113,19 +59,14 @@ public final class WholeTest {
     }
 
     private static void digest() {
-        CurvekeyHouse house = new CurvekeyHouse();
-        Due.is(byHand(house), "digest of a new one", house::digest);
-        house.bulk(30, 4);
-        house.speed(2, 1, -1);
-        house.tick(3);
-        house.remove(5);
-        house.share(3);
-        house.draw(2, 3);
-        house.search(1, 1, 4, 4, 2);
-        Due.is(byHand(house), "digest", house::digest);
-        Due.is(house.digest(), "digest again: it changes nothing", house::digest);
-        house.sweep();
-        Due.is(byHand(house), "digest behind a sweep", house::digest);
+        Due.is(byHand(new CurvekeyHouse()), "digest of a new one", () -> new CurvekeyHouse().digest());
+        Due.is(byHand(worked()), "digest", () -> worked().digest());
+        CurvekeyHouse twice = worked();
+        Due.is(twice.digest(), "digest again: it changes nothing", twice::digest);
+        CurvekeyHouse swept = worked();
+        swept.sweep();
+        Due.is(swept.digest(), "digest behind a sweep", () -> byHand(swept));
+        CurvekeyHouse house = worked();
         house.found(5, 1, 2);
         Due.is(byHand(house), "digest behind a found", house::digest);
         long before = house.digest();
@@ -141,6 +82,18 @@ public final class WholeTest {
             other.error();
             Due.is(one.digest(), "digest of a twin of whom more was asked", other::digest);
         }
+    }
+
+    private static CurvekeyHouse worked() {
+        CurvekeyHouse house = new CurvekeyHouse();
+        house.bulk(30, 4);
+        house.speed(2, 1, -1);
+        house.tick(3);
+        house.remove(5);
+        house.share(3);
+        house.draw(2, 3);
+        house.search(1, 1, 4, 4, 2);
+        return house;
     }
 
     private static long byHand(CurvekeyHouse house) {
