@@ -17,10 +17,25 @@ public final class InsideTest {
             CurvekeyHouse house = store();
             Due.yes("sound ahead of it", house.isSound());
             long before = house.digest();
-            numbers(house, b[0], b[1])[Integer.parseInt(b[2])] = Integer.parseInt(b[3]);
+            breakIt(house, b);
             Due.yes("not sound with " + String.join(" ", b), !house.isSound());
             Due.yes("another digest with " + String.join(" ", b), house.digest() != before);
+            Due.is(ByHand.digest(() -> brokenStore(b)), "the digest of what is not sound", house::digest);
         }
+    }
+
+    private static CurvekeyHouse brokenStore(String[] how) {
+        CurvekeyHouse house = store();
+        try {
+            breakIt(house, how);
+        } catch (ReflectiveOperationException thrown) {
+            throw new IllegalStateException(thrown);
+        }
+        return house;
+    }
+
+    private static void breakIt(CurvekeyHouse house, String[] how) throws ReflectiveOperationException {
+        numbers(house, how[0], how[1])[Integer.parseInt(how[2])] = Integer.parseInt(how[3]);
     }
 
     private static void floorsThatDoNotRise() throws ReflectiveOperationException {

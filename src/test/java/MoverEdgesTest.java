@@ -370,6 +370,10 @@ public final class MoverEdgesTest {
         Due.is(-1, "of none", () -> new CurvekeyHouse().proof(0, 0, 0));
         Due.is(-1, "the most", () -> column.proof(0, 0, Integer.MAX_VALUE));
         Due.is(1, "of one, however far", () -> Stores.rows(5, 2, 1023).proof(0, 0, 0));
+        CurvekeyHouse full = Stores.full();
+        Due.is(full.many(5), "the last of 80 is so far that all is read", () -> full.proof(0, 0, 79));
+        Due.is(1, "the first of 80", () -> full.proof(0, 0, 0));
+        Due.is(-1, "an 81st", () -> full.proof(0, 0, 80));
     }
 
     private static void proofReadsAsACut() {
@@ -433,6 +437,10 @@ public final class MoverEdgesTest {
         Due.is(2, "three as near: 2 and 3 have 1", () -> cross.reverse(1));
         Due.is(1, "1 has 2", () -> cross.reverse(2));
         Due.is(0, "none has 3", () -> cross.reverse(3));
+        CurvekeyHouse full = Stores.full();
+        Due.is(2, "of 80 the first is that of the one beside and the one above", () -> full.reverse(0));
+        Due.is(0, "the last one is that of none", () -> full.reverse(79));
+        Due.is(2, "one below, of the one beside and the one above", () -> full.reverse(14));
     }
 
     private static void reverseRefused() {

@@ -1,5 +1,3 @@
-import java.math.BigInteger;
-
 /** The edges of what is asked of all: promises 42 to 45, and what holds for every call. */
 public final class WholeEdgesTest {
     private static final Class<?> ARGUMENT = IllegalArgumentException.class;
@@ -200,74 +198,43 @@ public final class WholeEdgesTest {
         }
     }
 
-    private static final BigInteger WORD = BigInteger.ONE.shiftLeft(64);
-
-    private static BigInteger mixed(BigInteger d, long v) {
-        return d.multiply(BigInteger.valueOf(31)).add(BigInteger.valueOf(v)).mod(WORD);
-    }
-
-    /** By numbers without an end, cut to 64 bits: none of the house's own arithmetic is used. */
-    private static long byHand(CurvekeyHouse house) {
-        BigInteger d = BigInteger.valueOf(58283);
-        for (int what = 0; what <= 15; what++) {
-            d = mixed(d, house.many(what));
+    private static CurvekeyHouse someTicks(int times) {
+        CurvekeyHouse house = new CurvekeyHouse();
+        for (int time = 0; time < times; time++) {
+            house.put(time % 8, 0);
+            house.speed(time, -1, 1);
+            house.tick(1);
         }
-        for (int curve = 0; curve <= 5; curve++) {
-            for (int what = 0; what <= 3; what++) {
-                d = mixed(d, house.ofCurve(curve, what));
-            }
-        }
-        for (int point = 0; point < house.many(3); point++) {
-            for (int what = 0; what <= 9; what++) {
-                d = mixed(d, house.ofPoint(point, what));
-            }
-        }
-        for (int page = 0; page < house.many(5); page++) {
-            for (int what = 0; what <= 5; what++) {
-                d = mixed(d, house.ofPage(page, what));
-            }
-        }
-        d = mixed(mixed(d, house.extreme(true)), house.extreme(false));
-        d = mixed(mixed(d, house.error()), house.pieces(1));
-        for (int machine = 0; machine < house.many(11); machine++) {
-            for (int what = 0; what <= 2; what++) {
-                d = mixed(d, house.ofMachine(machine, what));
-            }
-        }
-        d = mixed(d, house.skew());
-        for (int what = 0; what <= 2; what++) {
-            d = mixed(d, house.rival(what));
-        }
-        return mixed(d, house.isSound() ? 1 : 0).longValue();
+        return house;
     }
 
     private static void digestWraps() {
         Due.says(45, "A number d starts with 58283; for each of the following numbers v, d becomes d * 31 + v, "
             + "which wraps around as a 64-bit integer");
         for (int times = 0; times < 12; times++) {
-            CurvekeyHouse house = new CurvekeyHouse();
-            for (int time = 0; time < times; time++) {
-                house.put(time % 8, 0);
-                house.speed(time, -1, 1);
-                house.tick(1);
-            }
-            Due.is(byHand(house), "of a bit more each time", house::digest);
+            int t = times;
+            Due.is(ByHand.digest(() -> someTicks(t)), "of a bit more each time", () -> someTicks(t).digest());
         }
-        Due.is(byHand(new CurvekeyHouse()), "of a new one", () -> new CurvekeyHouse().digest());
-        Due.is(byHand(Stores.crowded()), "of a full plane", () -> Stores.crowded().digest());
     }
 
     private static void digestOfEach() {
         Due.says(45, "many() of 0 to 15; CURVE by CURVE ofCurve() of 0 to 3; POINT by POINT ofPoint() of 0 to 9; "
             + "PAGE by PAGE ofPage() of 0 to 5; extreme() of both (farthest first); error(); pieces() of 1; "
             + "MACHINE by MACHINE ofMachine() of 0 to 2; skew(); rival() of 0 to 2; 1 if isSound(), otherwise 0.");
-        for (Picture.Store store : new Picture.Store[] {Stores::busy, Stores::drawn, Stores::oneGone, Stores::oneMoved}) {
+        for (Picture.Store store : stores()) {
+            long want = ByHand.digest(store);
             CurvekeyHouse house = store.build();
-            long want = byHand(house);
             Due.is(want, "digest", house::digest);
             Due.is(want, "again", house::digest);
             house.sweep();
-            Due.is(byHand(house), "behind a sweep", house::digest);
+            Due.is(ByHand.digest(() -> swept(store)), "behind a sweep", house::digest);
         }
+        Due.is(ByHand.digest(Stores::oneMoved), "where one moved", () -> Stores.oneMoved().digest());
+    }
+
+    private static CurvekeyHouse swept(Picture.Store store) {
+        CurvekeyHouse house = store.build();
+        house.sweep();
+        return house;
     }
 }

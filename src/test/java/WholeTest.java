@@ -59,16 +59,20 @@ public final class WholeTest {
     }
 
     private static void digest() {
-        Due.is(byHand(new CurvekeyHouse()), "digest of a new one", () -> new CurvekeyHouse().digest());
-        Due.is(byHand(worked()), "digest", () -> worked().digest());
+        Due.is(ByHand.digest(CurvekeyHouse::new), "digest of a new one", () -> new CurvekeyHouse().digest());
+        Due.is(ByHand.digest(WholeTest::worked), "digest", () -> worked().digest());
         CurvekeyHouse twice = worked();
         Due.is(twice.digest(), "digest again: it changes nothing", twice::digest);
         CurvekeyHouse swept = worked();
         swept.sweep();
-        Due.is(swept.digest(), "digest behind a sweep", () -> byHand(swept));
+        Due.is(ByHand.digest(() -> {
+            CurvekeyHouse another = worked();
+            another.sweep();
+            return another;
+        }), "digest behind a sweep", swept::digest);
         CurvekeyHouse house = worked();
         house.found(5, 1, 2);
-        Due.is(byHand(house), "digest behind a found", house::digest);
+        Due.is(ByHand.digest(() -> Stores.empty(5, 1, 2)), "digest behind a found", house::digest);
         long before = house.digest();
         house.knock();
         Due.is(before, "a knock is not in it", house::digest);
@@ -94,41 +98,5 @@ public final class WholeTest {
         house.draw(2, 3);
         house.search(1, 1, 4, 4, 2);
         return house;
-    }
-
-    private static long byHand(CurvekeyHouse house) {
-        long d = 58283;
-        for (int what = 0; what <= 15; what++) {
-            d = d * 31 + house.many(what);
-        }
-        for (int curve = 0; curve <= 5; curve++) {
-            for (int what = 0; what <= 3; what++) {
-                d = d * 31 + house.ofCurve(curve, what);
-            }
-        }
-        for (int point = 0; point < house.many(3); point++) {
-            for (int what = 0; what <= 9; what++) {
-                d = d * 31 + house.ofPoint(point, what);
-            }
-        }
-        for (int page = 0; page < house.many(5); page++) {
-            for (int what = 0; what <= 5; what++) {
-                d = d * 31 + house.ofPage(page, what);
-            }
-        }
-        d = d * 31 + house.extreme(true);
-        d = d * 31 + house.extreme(false);
-        d = d * 31 + house.error();
-        d = d * 31 + house.pieces(1);
-        for (int machine = 0; machine < house.many(11); machine++) {
-            for (int what = 0; what <= 2; what++) {
-                d = d * 31 + house.ofMachine(machine, what);
-            }
-        }
-        d = d * 31 + house.skew();
-        for (int what = 0; what <= 2; what++) {
-            d = d * 31 + house.rival(what);
-        }
-        return d * 31 + (house.isSound() ? 1 : 0);
     }
 }
