@@ -30,6 +30,7 @@ public final class CurveEdgesTest {
         placeAsked();
         placeRefused();
         curveFacts();
+        curveFactsOfEachPair();
         curveFactsRefused();
         runsRefused();
         runsOfTheLeastAndTheMost();
@@ -448,6 +449,49 @@ public final class CurveEdgesTest {
         Due.is(1, "the last key lies at 0 1, beside 0 0", () -> house.ofCurve(5, 3));
         house.design(0, 16, 8, 24);
         Due.is(0, "the last key lies at 1 1", () -> house.ofCurve(5, 3));
+    }
+
+    /** The facts once more by places alone, of a curve of its own too. */
+    private static void curveFactsOfEachPair() {
+        Due.says(5, "2 the sum of all these (each two PLACES once)");
+        for (int curve = 0; curve < 6; curve++) {
+            CurvekeyHouse house = new CurvekeyHouse();
+            house.design(9, 2, 28, 23);
+            int[] xs = new int[64];
+            int[] ys = new int[64];
+            for (int key = 0; key < 64; key++) {
+                xs[key] = house.place(curve, key, false);
+                ys[key] = house.place(curve, key, true);
+            }
+            int jumps = 0;
+            int greatest = 0;
+            int sum = 0;
+            for (int key = 0; key < 64; key++) {
+                for (int later = key + 1; later < 64; later++) {
+                    boolean isBeside = Math.abs(xs[key] - xs[later]) + Math.abs(ys[key] - ys[later]) == 1;
+                    jumps += later == key + 1 && !isBeside ? 1 : 0;
+                    greatest = isBeside ? Math.max(greatest, later - key) : greatest;
+                    sum += isBeside ? later - key : 0;
+                }
+            }
+            int[] due = {jumps, greatest, sum, Math.abs(xs[0] - xs[63]) + Math.abs(ys[0] - ys[63]) == 1 ? 1 : 0};
+            for (int what = 0; what < 4; what++) {
+                int c = curve;
+                int w = what;
+                Due.is(due[w], "ofCurve(" + c + ", " + w + ")", () -> house.ofCurve(c, w));
+            }
+        }
+        CurvekeyHouse greatest = Stores.empty(5, 0, 2);
+        int[] sums = {32736, 32736, 32736};
+        for (int curve = 0; curve < 3; curve++) {
+            int c = curve;
+            Due.is(sums[c], "the sum of the curve " + c + " on the side 32", () -> greatest.ofCurve(c, 2));
+        }
+        Due.is(63, "the greatest of the snake on the side 32", () -> greatest.ofCurve(1, 1));
+        for (int curve = 0; curve < 6; curve++) {
+            int c = curve;
+            Due.is(0, "none closes on the side 32", () -> greatest.ofCurve(c, 3));
+        }
     }
 
     private static void curveFactsRefused() {

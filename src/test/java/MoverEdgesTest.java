@@ -236,9 +236,11 @@ public final class MoverEdgesTest {
         Due.is(6, "neither", () -> house.speed(0, 3, 0));
         Due.is(7, "more than b", () -> house.speed(2, 3, 0));
         Due.is(0, "a key that is less", () -> house.guess(19, false));
+        Due.is(0, "a key that is far less, for which the line would guess -4", () -> house.guess(0, false));
         Due.is(0, "the least key", () -> house.guess(20, false));
         Due.is(2, "the greatest key", () -> house.guess(30, false));
         Due.is(2, "a key that is more", () -> house.guess(31, false));
+        Due.is(2, "a key that is far more, for which the line would guess 8", () -> house.guess(63, false));
     }
 
     private static void keysInARow() {

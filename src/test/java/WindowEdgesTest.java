@@ -313,8 +313,10 @@ public final class WindowEdgesTest {
         CurvekeyHouse house = Stores.oneGone();
         Due.is(0, "one that is gone", () -> house.search(1, 0, 1, 1, 1));
         Due.is(2, "those that live", () -> house.search(0, 0, 3, 1, 1));
-        house.speed(0, 1, 1);
-        Due.is(1, "where it is, not where it will be", () -> house.search(0, 0, 1, 1, 1));
+        CurvekeyHouse mover = Stores.rows(3, 2, 27);
+        mover.speed(0, 1, 1);
+        Due.is(1, "where it is", () -> mover.search(3, 3, 1, 1, 1));
+        Due.is(0, "not where it will be", () -> mover.search(4, 4, 1, 1, 1));
         Due.is(1, "the last place", () -> Stores.oneMoved().search(3, 3, 1, 1, 99));
         Due.is(0, "where it was", () -> Stores.oneMoved().search(1, 0, 1, 1, 99));
     }
