@@ -571,6 +571,9 @@ public final class CellEdgesTest {
         rivalIs(Stores.rows(3, 2, 0, 7, 63), "in three quarters", 4, 1, 1);
         rivalIs(Stores.rows(3, 2, 0, 7, 56, 63), "in four quarters", 4, 1, 0);
         rivalIs(Stores.rows(3, 2, 63, 62, 55), "in the last square of 2", 10, 3, 7);
+        rivalIs(Stores.rows(3, 2, 0, 1, 8), "in the first square of 2", 10, 3, 7);
+        rivalIs(Stores.rows(3, 2, 7, 6, 15), "in the square of 2 at the last x", 10, 3, 7);
+        rivalIs(Stores.rows(3, 2, 56, 57, 48), "in the square of 2 at the last y", 10, 3, 7);
         rivalIs(Stores.rows(3, 2, 0, 1, 8, 63, 62, 55), "in the first one too", 16, 3, 10);
         rivalIs(Stores.full(), "a full store", 22, 3, 2);
         rivalIs(Stores.oneGone(), "of those that live", 1, 0, 0);

@@ -342,6 +342,12 @@ public final class CurveEdgesTest {
         Due.says(2, "Throws `IllegalStateException` if the CURVE of the STORE is 5, and a POINT was put since it was "
             + "founded (whether it LIVES or not)");
         Due.allows("design ahead of a put", () -> Stores.empty(2, 5, 2), h -> h.design(1, 16, 24, 15));
+        Due.is(15, "then points have keys by it", () -> {
+            CurvekeyHouse house = Stores.empty(2, 5, 2);
+            house.design(1, 16, 24, 15);
+            house.put(3, 0);
+            return house.ofPoint(0, 2);
+        });
         Due.refuses(STATE, "design behind a put", () -> onOwn(1), h -> h.design(1, 16, 24, 15));
         Due.refuses(STATE, "design behind a bulk", () -> onOwn(2), h -> h.design(1, 16, 24, 15));
         Due.refuses(STATE, "design though it is gone", () -> onOwn(3), h -> h.design(1, 16, 24, 15));

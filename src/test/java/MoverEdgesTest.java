@@ -11,6 +11,7 @@ public final class MoverEdgesTest {
         speeds();
         tickHolds();
         tickInOrder();
+        tickOfTheDead();
         tickBars();
         soonIsNotBarred();
         divisions();
@@ -152,6 +153,22 @@ public final class MoverEdgesTest {
         Due.is(3, "three are barred", () -> house.many(14));
         Due.is(0, "then 0 is barred", () -> house.tick(2));
         Due.is(5, "twice", () -> house.many(14));
+    }
+
+    private static void tickOfTheDead() {
+        Due.says(0, "A TICK: POINT by POINT that LIVES, with a SPEED other than 0 and 0");
+        CurvekeyHouse house = Stores.rows(3, 2, 27, 36, 0, 63);
+        house.speed(0, 1, 1);
+        house.speed(1, -1, -1);
+        house.speed(2, 3, 3);
+        house.remove(2);
+        Due.is(0, "two that bar each other, and one that is gone, with a free way", () -> house.tick(1));
+        Due.is(2, "two are barred", () -> house.many(14));
+        house.remove(1);
+        Due.is(3, "one goes to 6 6, beside one that lives", () -> house.tick(9));
+        Due.is(8, "and is barred six times", () -> house.many(14));
+        Due.is(9, "VERSION", () -> house.many(7));
+        Due.is(4, "x of the one that is gone", () -> house.ofPoint(1, 0));
     }
 
     private static void tickBars() {
