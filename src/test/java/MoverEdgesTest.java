@@ -365,15 +365,18 @@ public final class MoverEdgesTest {
         Due.is(2, "2 is the last one", () -> three.proof(7, 7, 2));
         Due.is(-1, "3 is none", () -> three.proof(7, 7, 3));
         Due.says(23, "with the smallest r whose square is not below FAR of the NTH NEAREST");
-        // FAR 0, 1, 2, 4, 5, 9 and 10 of 0 0 on the side 8, and a page from each key of the column 0 and the row 0
+        // one at the place told, FAR 0, 1, 2, 4, 5, 9, 10, 13 and 16 of 0 0, and far ones that begin a page for each row
         int[][] due = {{0, 0, 0}, {1, 0, 1}, {1, 1, 2}, {2, 0, 2}, {1, 2, 3}, {3, 0, 3}, {3, 1, 4}, {2, 3, 4}, {4, 0, 4}};
         for (int[] d : due) {
-            CurvekeyHouse house = Stores.rows(5, 8, 32 * d[1] + d[0]);
-            for (int key = 0; key < 9; key++) {
-                house.put(31, 10 + 2 * key);
+            CurvekeyHouse house = Stores.rows(5, 2, 30);
+            for (int y = 0; y < 10; y++) {
+                house.put(31, y);
             }
+            house.put(d[0], d[1]);
             int r = d[2];
-            Due.is(house.cut(0, 0, r + 1, r + 1, 99, 2), "as a cut of r " + r, () -> house.proof(0, 0, 0));
+            int read = house.cut(0, 0, r + 1, r + 1, 99, 2);
+            Due.yes("a greater r reads more", house.cut(0, 0, r + 2, r + 2, 99, 2) > read);
+            Due.is(read, "as a cut of r " + r, () -> house.proof(0, 0, 0));
         }
         CurvekeyHouse column = Stores.rows(3, 2, 0, 8, 16, 24, 32, 40, 48, 56);
         Due.is(7, "pages from 0, 8, 16 and so on, two at last", () -> column.many(5));
@@ -588,6 +591,10 @@ public final class MoverEdgesTest {
         Due.is(400, "SPELLS", () -> spells(400).many(8));
         Due.is(80, "a tick behind 400 spells", () -> spells(400).tick(1));
         Due.is(720, "nine ticks behind 400 spells", () -> spells(400).tick(9));
+        CurvekeyHouse gone = spells(400);
+        gone.remove(7);
+        Due.is(401, "VERSION is more than 400", () -> gone.many(7));
+        Due.is(79, "but SPELLS are not", () -> gone.tick(1));
         Due.is(401, "SPELLS", () -> spells(401).many(8));
         Due.refuses(STATE, "a tick behind 401 spells", () -> spells(401), h -> h.tick(1));
         Due.refuses(STATE, "nine ticks behind 401 spells", () -> spells(401), h -> h.tick(9));
