@@ -12,6 +12,7 @@ public final class CellEdgesTest {
         tilesTell();
         tilesGrowOld();
         tilesOfEitherPlace();
+        tilesOfEachPlace();
         rivals();
         shareReturns();
         shareRefused();
@@ -124,6 +125,12 @@ public final class CellEdgesTest {
         }
         house.remove(1);
         Due.is(1, "of those that live", () -> house.blur(0, 2));
+        // 7 0 and 6 0, 0 7 and 0 6, 4 3
+        CurvekeyHouse apart = Stores.rows(3, 2, 7, 6, 56, 48, 28);
+        int[][] far = {{0, 2, 2}, {0, 3, 1}, {0, 4, 0}, {2, 2, 2}, {2, 3, 0}, {4, 1, 3}, {4, 2, 1}, {4, 3, 1}, {4, 4, 0}};
+        for (int[] d : far) {
+            Due.is(d[2], "blur(" + d[0] + ", " + d[1] + ") of unlike x and y", () -> apart.blur(d[0], d[1]));
+        }
     }
 
     private static void tilesTell() {
@@ -231,6 +238,61 @@ public final class CellEdgesTest {
         house.speed(0, 1, 1);
         Due.is(0, "barred at 7 7", () -> house.tick(3));
         Due.text("00000", "who is barred does not move", staleOnes(house));
+    }
+
+    /** 20 tiles of the side 4, all but the last quarter, and points at these keys by rows. */
+    private static CurvekeyHouse allTiles(int... keys) {
+        CurvekeyHouse house = Stores.rows(2, 2, keys);
+        house.draw(0, 0);
+        for (int cell = 0; cell < 3; cell++) {
+            house.draw(1, cell);
+        }
+        for (int cell = 0; cell < 16; cell++) {
+            house.draw(2, cell);
+        }
+        return house;
+    }
+
+    /** Stale are just the tiles around these places, told by their keys by rows. */
+    private static void staleAround(CurvekeyHouse house, String when, int... places) {
+        int[] due = new int[16];
+        int[] quarters = new int[4];
+        for (int place : places) {
+            due[place] = 1;
+            quarters[place / 8 * 2 + place % 4 / 2] = 1;
+        }
+        quarters[3] = -1;
+        Due.is(1, when + ": the plane", () -> house.tile(0, 0, true));
+        for (int quarter = 0; quarter < 4; quarter++) {
+            int q = quarter;
+            Due.is(quarters[q], when + ": the quarter " + q, () -> house.tile(1, q, true));
+        }
+        for (int place = 0; place < 16; place++) {
+            int p = place;
+            Due.is(due[p], when + ": the place " + p, () -> house.tile(2, p, true));
+        }
+    }
+
+    private static void tilesOfEachPlace() {
+        Due.says(0, "It is STALE as soon as a POINT is put, moved to another PLACE or taken away with a PLACE in it");
+        for (int place = 0; place < 16; place++) {
+            int other = (place * 5 + 7) % 16;
+            CurvekeyHouse put = allTiles();
+            put.put(place % 4, place / 4);
+            staleAround(put, "put at " + place, place);
+            CurvekeyHouse gone = allTiles(place);
+            gone.remove(0);
+            staleAround(gone, "taken away at " + place, place);
+            if (other != place) {
+                CurvekeyHouse moved = allTiles(place);
+                moved.move(0, other % 4, other / 4);
+                staleAround(moved, "moved from " + place + " to " + other, place, other);
+            }
+        }
+        CurvekeyHouse ticked = allTiles(2, 12);
+        ticked.speed(0, 1, 0);
+        ticked.tick(1);
+        staleAround(ticked, "a tick from 2 to 3", 2, 3);
     }
 
     private static void rivals() {
@@ -356,6 +418,10 @@ public final class CellEdgesTest {
         Due.is(2, "one without pages has no load", one::skew);
         one.remove(0);
         Due.is(1, "of those that live", one::skew);
+        CurvekeyHouse falling = shared(4);
+        falling.remove(5);
+        falling.remove(4);
+        Due.is(2, "2, 1, 1 and 0", falling::skew);
         CurvekeyHouse four = shared(4);
         four.remove(2);
         Due.is(2, "2, 0, 1 and 2", four::skew);
@@ -597,8 +663,16 @@ public final class CellEdgesTest {
                 () -> house.rivalReads(d[0], d[1], d[2], d[3]));
         }
         Due.is(1, "the plane alone", () -> new CurvekeyHouse().rivalReads(7, 7, 1, 1));
+        Due.is(1, "three points by CAPACITY 3, in two pages", () -> fourThenThree().rivalReads(0, 0, 8, 8));
+        Due.is(4, "four points by CAPACITY 3", () -> Stores.rows(3, 3, 0, 1, 62, 63).rivalReads(0, 0, 8, 8));
         Due.is(22, "all of a full store", () -> Stores.full().rivalReads(0, 0, 16, 16));
         Due.changesNothing("rivalReads", Stores::busy, h -> h.rivalReads(0, 0, 8, 8));
+    }
+
+    private static CurvekeyHouse fourThenThree() {
+        CurvekeyHouse house = Stores.rows(3, 3, 0, 1, 62, 63);
+        house.remove(1);
+        return house;
     }
 
     private static void rivalReadsRefused() {

@@ -110,6 +110,8 @@ public final class StoreEdgesTest {
         Due.refuses(STATE, "the 81st, though one is gone", StoreEdgesTest::fullButOne, h -> h.put(0, 0));
         Due.changesNothing("a bulk behind the 80th", Stores::full, h -> h.bulk(40, 3));
         Due.is(0, "a bulk puts none behind the 80th", () -> Stores.full().bulk(40, 3));
+        Due.changesNothing("a bulk behind the 80th, though one is gone", StoreEdgesTest::fullButOne, h -> h.bulk(40, 3));
+        Due.is(0, "it puts none either", () -> fullButOne().bulk(40, 3));
     }
 
     private static CurvekeyHouse fullButOne() {
@@ -423,9 +425,11 @@ public final class StoreEdgesTest {
         Due.is(0, "no spell", () -> house.asOf(0, 0, 8, 8, 0));
         house.put(0, 0);
         Due.is(0, "no speed of one ahead of it", () -> house.tick(1));
+        house.remove(0);
+        Due.is(0, "no spell from ahead of it", () -> house.asOf(0, 0, 8, 8, 2));
         house.found(3, 3, 4);
         house.found(3, 3, 4);
-        Due.is(3, "neither of two more", house::knock);
+        Due.is(3, "two more found change nothing of that", house::knock);
     }
 
     private static void foundReturns() {
